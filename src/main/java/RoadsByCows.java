@@ -1372,7 +1372,9 @@ public final class RoadsByCows {
 
     /** THE RULE, kept with each sign behind the things that it binds, so that it is reckoned in one go. */
     private static final class Rule {
-        private static final String FACTS = "gstrmoeik";
+        /** The letters of what a rule asks of a herd and a cell; it is handed them in this order. */
+        static final String FACTS = "gstrmoeik";
+        static final int FACT_COUNT = 9;
         private static final int MOST_DEEP = 4;
         private static final int COMPARES = 1;
         /** A minus ahead of a thing; no sign of a text, so that none is taken for it. */
@@ -1432,7 +1434,7 @@ public final class RoadsByCows {
                 if (fact == NONE) {
                     return false;
                 }
-                write(fact);
+                write(numberOf(fact));
             }
             wantsThing = false;
             return true;
@@ -1513,67 +1515,61 @@ public final class RoadsByCows {
             }
         }
 
-        int pleases(State state, int herd, int cell, int keeps) {
+        /** A letter's code: 1 for the first of FACTS, so that numbers have 0 and less for theirs. */
+        private static int numberOf(int fact) {
+            return FACTS.indexOf((char) fact) + 1;
+        }
+
+        boolean asksFor(char fact) {
+            int number = numberOf(fact);
+            for (int i = 0; i < codeSize; i++) {
+                if (code[i] == number) {
+                    return true;
+                }
+            }
+            return false;
+        }
+
+        int reckon(int[] facts) {
             int top = 0;
             values[0] = 0;
             for (int i = 0; i < codeSize; i++) {
                 int sign = code[i];
-                if (sign <= 0) {
-                    values[top] = -sign;
-                    top++;
-                } else if (sign >= 'a' && sign <= 'z') {
-                    values[top] = factOf(sign, state, herd, cell, keeps);
+                if (sign <= facts.length) {
+                    values[top] = sign <= 0 ? -sign : facts[sign - 1];
                     top++;
                 } else if (sign == TURN_ROUND && top >= 1) {
                     values[top - 1] = -values[top - 1];
                 } else if (top >= 2) {
+                    int b = values[top - 1];
+                    int a = values[top - 2];
                     top--;
-                    values[top - 1] = bind(sign, values[top - 1], values[top]);
+                    switch (sign) {
+                        case '<':
+                            values[top - 1] = a < b ? 1 : 0;
+                            break;
+                        case '>':
+                            values[top - 1] = a > b ? 1 : 0;
+                            break;
+                        case '=':
+                            values[top - 1] = a == b ? 1 : 0;
+                            break;
+                        case '+':
+                            values[top - 1] = a + b;
+                            break;
+                        case '-':
+                            values[top - 1] = a - b;
+                            break;
+                        case '*':
+                            values[top - 1] = a * b;
+                            break;
+                        default:
+                            values[top - 1] = b == 0 ? 0 : a / b;
+                            break;
+                    }
                 }
             }
             return values[0];
-        }
-
-        private static int factOf(int sign, State state, int herd, int cell, int keeps) {
-            switch (sign) {
-                case 'g':
-                    return state.grass[cell];
-                case 's':
-                    return state.salt[cell];
-                case 't':
-                    return state.thistles[cell];
-                case 'r':
-                    return state.isRoad(cell, keeps) ? 1 : 0;
-                case 'm':
-                    return state.at[herd] == cell ? 0 : 1;
-                case 'o':
-                    return Integer.bitCount(state.herdsAt(cell) & ~(1 << herd));
-                case 'e':
-                    return state.greed[herd];
-                case 'i':
-                    return herd;
-                default:
-                    return state.now;
-            }
-        }
-
-        private static int bind(int sign, int a, int b) {
-            switch (sign) {
-                case '<':
-                    return a < b ? 1 : 0;
-                case '>':
-                    return a > b ? 1 : 0;
-                case '=':
-                    return a == b ? 1 : 0;
-                case '+':
-                    return a + b;
-                case '-':
-                    return a - b;
-                case '*':
-                    return a * b;
-                default:
-                    return b == 0 ? 0 : a / b;
-            }
         }
     }
 
@@ -1583,12 +1579,23 @@ public final class RoadsByCows {
         private final Rule rule;
         int keeps = 12;
         int grows = 6;
-        /** The cells that herds weighed since this was last put to 0: what lies on others can't have told. */
-        long weighed;
+        /** Of the herd and the cell that are weighed, in the turn of Rule.FACTS. */
+        private final int[] facts = new int[Rule.FACT_COUNT];
+        /** The cells that herds weighed since this was last put to 0. */
+        private long weighed;
 
         Walk(Ground ground, Rule rule) {
             this.ground = ground;
             this.rule = rule;
+        }
+
+        void forgetWeighed() {
+            weighed = 0;
+        }
+
+        /** The cells where more or less of what the rule names by a letter can have told. */
+        long tellingBy(char fact) {
+            return rule.asksFor(fact) ? weighed : 0;
         }
 
         /** AN HOUR: how many herds moved. */
@@ -1628,13 +1635,11 @@ public final class RoadsByCows {
                 return here;
             }
             int best = here;
-            int most = rule.pleases(state, herd, here, keeps);
-            weighed |= Board.bit(here);
+            int most = weigh(state, herd, here);
             for (int way = Board.NORTH; way <= Board.WEST; way++) {
                 int cell = Board.next(here, way);
                 if (Board.has(within, cell)) {
-                    int value = rule.pleases(state, herd, cell, keeps);
-                    weighed |= Board.bit(cell);
+                    int value = weigh(state, herd, cell);
                     if (value > most) {
                         most = value;
                         best = cell;
@@ -1642,6 +1647,21 @@ public final class RoadsByCows {
                 }
             }
             return best;
+        }
+
+        /** How a cell PLEASES a herd. */
+        private int weigh(State state, int herd, int cell) {
+            weighed |= Board.bit(cell);
+            facts[0] = state.grass[cell];
+            facts[1] = state.salt[cell];
+            facts[2] = state.thistles[cell];
+            facts[3] = state.isRoad(cell, keeps) ? 1 : 0;
+            facts[4] = state.at[herd] == cell ? 0 : 1;
+            facts[5] = Integer.bitCount(state.herdsAt(cell) & ~(1 << herd));
+            facts[6] = state.greed[herd];
+            facts[7] = herd;
+            facts[8] = state.now;
+            return rule.reckon(facts);
         }
 
         private void grow(State state) {
@@ -1807,8 +1827,8 @@ public final class RoadsByCows {
         final State ahead = new State();
         /** In which HOUR a herd was first at a cell, of each cell; NONE. */
         final int[] wasAt = new int[CELLS];
-        /** What herds weighed till they came by, with THISTLES on a cell, of each cell. */
-        private final long[] weighedWith = new long[CELLS];
+        /** Where more THISTLES can tell in the run with some on a cell, of each cell. */
+        private final long[] tellingWith = new long[CELLS];
         int firstCell;
         int secondCell;
 
@@ -1820,7 +1840,7 @@ public final class RoadsByCows {
 
         State begin() {
             ahead.copyFrom(present);
-            walk.weighed = 0;
+            walk.forgetWeighed();
             return ahead;
         }
 
@@ -1869,7 +1889,7 @@ public final class RoadsByCows {
          * must have been the last one: salt where no herd weighed a cell in it would change nothing.
          */
         int saltThatLures(int cell, int n) {
-            long telling = walk.weighed;
+            long telling = walk.tellingBy('s');
             for (int more = 1; more <= MOST_ON_A_CELL; more++) {
                 for (int spot = 0; spot < CELLS; spot++) {
                     if (Board.has(telling, spot) && ground.isPlain(spot)
@@ -1888,16 +1908,16 @@ public final class RoadsByCows {
 
         /** Whether THISTLES on 'firstCell' keep herds from a cell; behind the run without any. */
         boolean isHedgedByOne(int cell, int n) {
-            long telling = walk.weighed;
+            long telling = walk.tellingBy('t');
             for (int spot = 0; spot < CELLS; spot++) {
-                weighedWith[spot] = telling;
+                tellingWith[spot] = telling;
                 if (Board.has(telling, spot) && ground.isPlain(spot)) {
                     beginWithThistles(spot, spot);
                     if (hourOfComing(cell, n) == NONE) {
                         firstCell = spot;
                         return true;
                     }
-                    weighedWith[spot] = walk.weighed;
+                    tellingWith[spot] = walk.tellingBy('t');
                 }
             }
             return false;
@@ -1910,7 +1930,7 @@ public final class RoadsByCows {
         boolean isHedgedByTwo(int cell, int n) {
             for (int one = 0; one < CELLS; one++) {
                 for (int two = one + 1; two < CELLS; two++) {
-                    if (Board.has(weighedWith[one], two) && Board.has(weighedWith[two], one)
+                    if (Board.has(tellingWith[one], two) && Board.has(tellingWith[two], one)
                             && ground.isPlain(one) && ground.isPlain(two)) {
                         beginWithThistles(one, two);
                         if (hourOfComing(cell, n) == NONE) {
