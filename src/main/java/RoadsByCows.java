@@ -395,7 +395,8 @@ public final class RoadsByCows {
         int cell = 0;
         switch (kind) {
             case 'h':
-                number = Math.abs(text.digit(1, 9));
+                number = text.digit(1, 9);
+                number = number == NONE ? 1 : number;
                 break;
             case 's':
             case 't':

@@ -56,6 +56,10 @@ public final class SaltTest {
         Check.rule(x, "(s>9)*m");
         CHECK.due("never 10", x.lure(0, 1), -2);
         CHECK.due("it is not laid", Check.cell(x, 0, 1), 9);
+        RoadsByCows y = Check.made("000", "b10");
+        Check.rule(y, "s");
+        CHECK.due("a rule of SALT alone", y.lure(0, 1), 1);
+        CHECK.dueRow("a rule of SALT alone", y, 0);
     }
 
     private static void lureFromAfar() {
@@ -98,6 +102,9 @@ public final class SaltTest {
         CHECK.due("thistles where it is keep it", x.hedge(2, 1), 1);
         CHECK.dueRow("thistles where it is keep it", x, 1);
         CHECK.due("nothing was put", Check.cell(x, 1, 2), 0);
+        Check.rule(x, "t");
+        CHECK.due("one that thistles please", x.hedge(1, 1), 1);
+        CHECK.dueRow("one that thistles please", x, 0);
     }
 
     private static void hedgeByTwo() {
