@@ -53,6 +53,10 @@ public final class LettersEdgesTest {
                 CHECK.dueRow("a1 to b1 by " + k, x, k % 2 == 1 ? 1 : -1);
             }
         }
+        CHECK.due("b1 to a1 by 1", x.ways(1, 0, 1), 1);
+        CHECK.dueRow("b1 to a1 by 1: the first cell is the next", x, 0);
+        CHECK.due("b1 to b1 by 20", x.ways(1, 1, 20), 1);
+        CHECK.dueRow("b1 to b1 by 20", x, 0);
         CHECK.due("k most", x.ways(0, 0, MOST), -1);
         CHECK.due("k least", x.ways(0, 0, LEAST), -1);
         RoadsByCows y = trodden(3, 2);

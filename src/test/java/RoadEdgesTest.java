@@ -178,7 +178,11 @@ public final class RoadEdgesTest {
     private static void least() {
         CHECK.due("no cells", new RoadsByCows().least(), -2);
         CHECK.due("no herds", Check.made("0", "").least(), -2);
-        CHECK.due("one herd", Check.made("0", "a10").least(), 0);
+        for (String one : new String[] {"a10", "h10", "d40", "h80"}) {
+            RoadsByCows x = Check.made(BLANK, one);
+            CHECK.due("one herd, " + one, x.least(), 0);
+            CHECK.dueRow("one herd, " + one, x, 1);
+        }
         for (int old : new int[] {0, 1, 2, 59, 60, 98, 99, 100, 101}) {
             RoadsByCows x = Check.made("000", "b10;c10");
             Check.rule(x, "0");
@@ -331,9 +335,11 @@ public final class RoadEdgesTest {
     private static void meets() {
         CHECK.due("no cells", new RoadsByCows().meets(), -2);
         CHECK.due("no herds", Check.made("00", "").meets(), -2);
-        RoadsByCows one = Check.made("00", "a10");
-        CHECK.due("one herd", one.meets(), 0);
-        CHECK.dueRow("one herd", one, 1);
+        for (String one : new String[] {"a10", "h10", "d40", "h80"}) {
+            RoadsByCows x = Check.made(BLANK, one);
+            CHECK.due("one herd, " + one, x.meets(), 0);
+            CHECK.dueRow("one herd, " + one, x, 1);
+        }
         for (int hour : new int[] {1, 2, 99, 100, 101}) {
             RoadsByCows x = Check.made("000", "a10;c10");
             Check.rule(x, "(k=" + hour + ")*m*(i=0)");

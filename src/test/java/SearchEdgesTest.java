@@ -13,6 +13,7 @@ public final class SearchEdgesTest {
         hedgeOfNone();
         hedgeInTime();
         hedgeOfOneAndTwo();
+        hedgeOfTwo();
         hedgeOnWhat();
         gatesOfNoneToSix();
         gatesInTime();
@@ -191,6 +192,29 @@ public final class SearchEdgesTest {
         Check.rule(last, "m*(1-r)-t");
         CHECK.due("h7 from h8", last.hedge(55, 1), 1);
         CHECK.dueRow("h7 from h8", last, 55);
+    }
+
+    /** Promise 33: two that are one beside the other, and one that tells only with the other. */
+    private static void hedgeOfTwo() {
+        // b1 goes to b2 at once, a1 comes by a2; both stay only for thistles where they are.
+        RoadsByCows x = Check.made("000/590", "a10;b10");
+        Check.rule(x, "g+(1-m)*(t=9)*99");
+        x.set(1, 99);
+        CHECK.due("in 1: b1 alone", x.hedge(9, 1), 1);
+        CHECK.dueRow("in 1: b1 alone", x, 1);
+        CHECK.due("in 2: a1 and b1", x.hedge(9, 2), 2);
+        CHECK.dueRow("in 2: a1 and b1", x, 0, 1);
+        // From a2 it goes to b2 at once; with thistles there by a1 and b1, where it was not before.
+        RoadsByCows y = Check.made("00#/090", "a20");
+        Check.rule(y, "m*9-t+g");
+        y.set(1, 99);
+        CHECK.due("in 1", y.hedge(9, 1), 1);
+        CHECK.dueRow("in 1", y, 9);
+        CHECK.due("in 2", y.hedge(9, 2), 1);
+        CHECK.due("in 3", y.hedge(9, 3), 2);
+        CHECK.dueRow("in 3", y, 1, 9);
+        CHECK.due("in 5", y.hedge(9, 5), 2);
+        CHECK.dueRow("in 5", y, 1, 9);
     }
 
     /** Promise 33: "(no FENCES, no GATES)"; what has THISTLES 9 already is not put any on. */

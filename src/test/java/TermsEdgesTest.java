@@ -18,6 +18,7 @@ public final class TermsEdgesTest {
         divisions();
         intsGoRound();
         minuses();
+        others();
         keeps();
         slowOnes();
         fourSides();
@@ -270,6 +271,27 @@ public final class TermsEdgesTest {
         isTrue("2*--3=6");
         isTrue("-2*-3=6");
         isTrue("--(1+1)=2");
+    }
+
+    /** "m 1 if the herd is not at it", "o how many other herds are at it": none, one, all five. */
+    private static void others() {
+        RoadsByCows alone = Check.made("00", "a10");
+        Check.rule(alone, "o*2*(1-m)+m");
+        CHECK.due("alone at its own", Check.herd(alone, 0, 4), 1);
+        Check.rule(alone, "(o=0)*m");
+        CHECK.due("none beside it", Check.herd(alone, 0, 4), 1);
+        RoadsByCows x = Check.made("00", "a10;b10;b10;b10;b10;b10");
+        for (int herd = 0; herd < 6; herd++) {
+            int there = herd == 0 ? 5 : 1;
+            int here = herd == 0 ? 0 : 4;
+            int other = herd == 0 ? 1 : 0;
+            Check.rule(x, "(o=" + there + ")*m");
+            CHECK.due("beside herd " + herd, Check.herd(x, herd, 4), other);
+            Check.rule(x, "(o=" + here + ")*(1-m)*2+m");
+            CHECK.due("at its own, herd " + herd, Check.herd(x, herd, 4), herd == 0 ? 0 : 1);
+            Check.rule(x, "(o=" + (here + 1) + ")*(1-m)*2+m");
+            CHECK.due("no more at its own, herd " + herd, Check.herd(x, herd, 4), other);
+        }
     }
 
     /** "NOW less LAST KEEPS or less; KEEPS 0 .. 99, at first 12". */

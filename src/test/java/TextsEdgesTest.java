@@ -16,8 +16,10 @@ public final class TextsEdgesTest {
         herdsOfNothing();
         herdsAllOrNone();
         noRule();
+        ruleBegun();
         dayOfSixtySigns();
         dayOfNothing();
+        dayMoves();
         dayTillOneCannotBe();
         brideOfOneToTwelve();
         brideWaysAtMost();
@@ -270,6 +272,19 @@ public final class TextsEdgesTest {
         CHECK.due("c1 is -2 too, a1 is 0", Check.herd(x, 0, 4), 0);
     }
 
+    /** Promise 6: what a refused one began is gone with it. */
+    private static void ruleBegun() {
+        RoadsByCows x = Check.made("00", "a10");
+        for (String begun : new String[] {"-", "--", "---", "0-", "(-", "-(-(", "0<", "9*", "((((0-", "-".repeat(40)}) {
+            CHECK.due("rule " + begun, Check.rule(x, begun), -1 - begun.length());
+            CHECK.due("rule m", Check.rule(x, "m"), 0);
+            CHECK.due("m behind " + begun, Check.herd(x, 0, 4), 1);
+            CHECK.due("rule " + begun, Check.rule(x, begun), -1 - begun.length());
+            CHECK.due("rule -m", Check.rule(x, "-m"), 0);
+            CHECK.due("-m behind " + begun, Check.herd(x, 0, 4), 0);
+        }
+    }
+
     /** Promise 17: "60 signs". */
     private static void dayOfSixtySigns() {
         String acts = "h;".repeat(28);
@@ -310,6 +325,21 @@ public final class TextsEdgesTest {
         CHECK.due("h", Check.day(x, "h"), 1);
         CHECK.dueRow("h", x, 0, 1);
         CHECK.due("NOW", x.count(6), 46);
+    }
+
+    /** Promise 17: "how often herds moved in HOURS": not what an ACT was answered, nor dogs. */
+    private static void dayMoves() {
+        RoadsByCows x = Check.made("000/00+", "b10");
+        Check.rule(x, "m");
+        x.salt(0, 9);
+        x.thistles(1, 9);
+        x.gate(0, 1);
+        for (String acts : new String[] {"sa15;sa17", "tb15;tb17", "o0;o0", "c0;c0", "d0c1;d0b1"}) {
+            CHECK.due(acts, Check.day(x, acts), 2);
+            CHECK.dueRow(acts, x, 0, 0);
+        }
+        CHECK.due("with HOURS between", Check.day(x, "sa12;h;tb12;h2;o0"), 5);
+        CHECK.dueRow("with HOURS between", x, 0, 3);
     }
 
     /** Promise 17: "till one can't be (it answers below 0; cells that are not there)". */
